@@ -904,7 +904,7 @@ public final class WeekBank {
     private static final class RingSearch {
         private static final int[] DIGIT_WORTH = {100000000, 10000000, 1000000, 100000, 10000, 1000, 100, 10, 1};
         private static final int GETS_NONE = 9;
-        private static final int NO_WAY = Integer.MAX_VALUE;
+        private static final int NO_WAY = 2147483647;
         private static final int SETS = 1 << MOST_WAITING;
 
         private final Gift[] members = new Gift[MOST_WAITING];
@@ -1021,11 +1021,11 @@ public final class WeekBank {
             }
         }
 
-        /** The rest is each set without the least member, from the greatest down to the empty one. */
+        /** All of it in one ring, or its least member's ring and a rest: each rest in turn, from the greatest down. */
         private int firstWay(int set) {
             int others = set & (set - 1);
-            int first = NO_WAY;
-            for (int rest = others; rest >= 0; rest = rest == 0 ? -1 : (rest - 1) & others) {
+            int first = ringOf[set];
+            for (int rest = others; rest > 0; rest = (rest - 1) & others) {
                 int ring = ringOf[set & ~rest];
                 if (ring != NO_WAY && wayOf[rest] != NO_WAY) {
                     first = Math.min(first, ring + wayOf[rest]);
@@ -1067,7 +1067,10 @@ public final class WeekBank {
         }
     }
 
-    /** FEES as they would come, of the OWNERS who live. */
+    /**
+     * FEES as they would come, of the OWNERS who live. One without WEEKS leaves like the others, as the
+     * document says it of all OWNERS, but never counts as one who stays.
+     */
     private static final class FeeRounds {
         private final int[] limits = new int[MOST_OWNERS];
         private final int[] owned = new int[MOST_OWNERS];

@@ -238,6 +238,8 @@ public final class PromisesTest {
         good("season\n05\n0005\n0;heirs\nbound\n;", 2);
         good("size1 1;".repeat(30), 30);
         good("size1 1;".repeat(30) + " \n  ", 30);
+        good(" ".repeat(300 - 9) + "size 1 1;", 1);
+        good("\n".repeat(300), 0);
     }
 
     private static void rulesKept() {
@@ -296,6 +298,13 @@ public final class PromisesTest {
         fault("size 1 1; ,", 1, 10);
         fault("size 99999", 1, 5);
         fault("size 1,5", 1, 6);
+        fault("dize 1 1;", 1, 0);
+        fault("heirs found;", 1, 6);
+        fault(" ".repeat(300 - 4) + "size", 1, 300);
+        fault(" ".repeat(300 - 6) + "size 1", 1, 300);
+        fault("size 1 1" + " ".repeat(300 - 8), 1, 300);
+        fault("9".repeat(300), 1, 0);
+        fault("z".repeat(300), 1, 0);
     }
 
     private static void faultsOfKindTwo() {
@@ -720,6 +729,7 @@ public final class PromisesTest {
         is("weeks(-1)", x.weeks(-1), -1);
         is("weeks(53)", x.weeks(53), -1);
         is("weeks(max)", x.weeks(Integer.MAX_VALUE), -1);
+        is("weeks(1)", x.weeks(1), 1);
         x.give(0, 0, 4);
         x.give(0, 0, 5);
         x.give(0, 0, 6);
@@ -728,7 +738,7 @@ public final class PromisesTest {
         x.bank(3);
         x.bank(4);
         x.take(0, 4);
-        is("weeks(5)", x.weeks(5), 5);
+        is("weeks(4)", x.weeks(4), 5);
         is("4 waited", x.of(0, 5), 5);
         is("5 waited", x.of(1, 5), 5);
         is("6 waits on", x.of(2, 5), 0);
@@ -845,6 +855,17 @@ public final class PromisesTest {
         x.own(0, 10, 0);
         is("cost by weeks", x.fees(41, 0), 9);
         is("the least", x.fees(1, 0), 1);
+        x = new WeekBank();
+        x.flat(0, 1);
+        int[] oneByOne = {99, 111, 124, 142, 166, 199, 249, 333, 499, 999};
+        for (int o = 0; o < 10; o++) {
+            x.owner(oneByOne[o]);
+            x.own(0, o, o);
+        }
+        is("ten leave, one by one", x.fees(1000, 1), 10);
+        is("and it breaks", x.fees(1000, 0), 0);
+        is("just one leaves", x.fees(999, 0), 111);
+        is("in one round", x.fees(999, 1), 1);
     }
 
     private static void feesOfTheWeekless() {
