@@ -940,7 +940,6 @@ public final class WeekBank {
             for (int set = 1; set < sets; set++) {
                 goOnFrom(set, mostSteps);
             }
-            wayOf[0] = 0;
             for (int set = 1; set < sets; set++) {
                 wayOf[set] = firstWay(set);
                 if (wayOf[set] != NO_WAY && isBetter(set)) {
@@ -953,14 +952,18 @@ public final class WeekBank {
         int swapBest() {
             for (int i = 0; i < size; i++) {
                 if (has(best, i)) {
-                    Gift gift = members[i];
-                    Gift other = members[wayOf[best] / DIGIT_WORTH[i] % 10];
-                    gift.state = SWAPPED;
-                    gift.got = other;
-                    other.getter = gift.owner;
+                    swap(members[i], wayOf[best] / DIGIT_WORTH[i] % 10);
                 }
             }
             return Integer.bitCount(best);
+        }
+
+        private void swap(Gift gift, int got) {
+            if (got >= 0 && got < size) {
+                gift.state = SWAPPED;
+                gift.got = members[got];
+                members[got].getter = gift.owner;
+            }
         }
 
         private void forgetBefore(int sets) {
@@ -969,7 +972,6 @@ public final class WeekBank {
             }
             for (int set = 0; set < sets; set++) {
                 ringOf[set] = NO_WAY;
-                wayOf[set] = NO_WAY;
             }
         }
 

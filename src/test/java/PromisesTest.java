@@ -1,10 +1,5 @@
-import java.util.NoSuchElementException;
-
 /** Each promise of the document by hand: ordinary inputs, the edges it names, wrong inputs. */
-public final class PromisesTest {
-    private static int wrong = 0;
-    private static String promise = "";
-
+public final class PromisesTest extends Checks {
     public static void main(String[] args) {
         newObject();
         flats();
@@ -40,82 +35,11 @@ public final class PromisesTest {
         giftsTold();
         ownersTold();
         counts();
-        System.out.println(wrong == 0 ? "all promises hold" : wrong + " answers are wrong");
-        if (wrong != 0) {
-            System.exit(1);
-        }
-    }
-
-    private static void is(String call, int got, int want) {
-        if (got != want) {
-            wrong++;
-            System.out.println(promise + ": " + call + " answered " + got + ", due is " + want);
-        }
-    }
-
-    private static void is(String call, boolean got, boolean want) {
-        is(call, got ? 1 : 0, want ? 1 : 0);
-    }
-
-    private static void noSuch(WeekBank x, int gift, int what) {
-        try {
-            is("of(" + gift + ", " + what + ") without a throw", x.of(gift, what), Integer.MIN_VALUE);
-        } catch (NoSuchElementException e) {
-            return;
-        }
-    }
-
-    private static void tape(WeekBank x, String text) {
-        StringBuilder padded = new StringBuilder(text);
-        while (padded.length() % 20 != 0) {
-            padded.append(' ');
-        }
-        for (int i = 0; i < padded.length(); i += 20) {
-            int[] n = new int[5];
-            for (int j = 0; j < 20; j++) {
-                n[j / 4] = n[j / 4] << 8 | padded.charAt(i + j);
-            }
-            x.feed(n[0], n[1], n[2], n[3], n[4]);
-        }
-        x.end(text.length());
-    }
-
-    private static int rules(WeekBank x, String text) {
-        tape(x, text);
-        return x.rules();
-    }
-
-    private static void fault(String text, int kind, int place) {
-        WeekBank x = new WeekBank();
-        is("rules of '" + text + "'", rules(x, text), -1 - kind);
-        is("place of '" + text + "'", x.place(), place);
-        is("tape after '" + text + "'", x.count(7), 0);
-    }
-
-    private static void good(String text, int statements) {
-        WeekBank x = new WeekBank();
-        is("rules of '" + text + "'", rules(x, text), statements);
-        is("place of '" + text + "'", x.place(), WeekBank.NONE);
-    }
-
-    /** Two flats (town 0 size 1, town 1 size 3), owners 0 to 3; owner o owns weeks 10 o + 1 to 10 o + 9 of both. */
-    private static WeekBank bank() {
-        WeekBank x = new WeekBank();
-        x.flat(0, 1);
-        x.flat(1, 3);
-        for (int o = 0; o < 4; o++) {
-            x.owner(100 * (o + 1));
-            for (int week = 10 * o + 1; week < 10 * o + 10; week++) {
-                x.own(0, week, o);
-                x.own(1, week, o);
-            }
-        }
-        rules(x, "season 0 9 10; season 10 19 20; season 20 29 30; season 30 52 40; size 3 5;");
-        return x;
+        finish("all promises hold");
     }
 
     private static void newObject() {
-        promise = "1";
+        about("1");
         WeekBank x = new WeekBank();
         for (int what = 0; what <= 9; what++) {
             is("count(" + what + ")", x.count(what), 0);
@@ -128,7 +52,7 @@ public final class PromisesTest {
     }
 
     private static void flats() {
-        promise = "2";
+        about("2");
         WeekBank x = new WeekBank();
         is("flat(-1, 1)", x.flat(-1, 1), -1);
         is("flat(4, 1)", x.flat(4, 1), -1);
@@ -144,7 +68,7 @@ public final class PromisesTest {
     }
 
     private static void owners() {
-        promise = "3";
+        about("3");
         WeekBank x = new WeekBank();
         is("owner(-1)", x.owner(-1), -1);
         is("owner(10000)", x.owner(10000), -1);
@@ -160,7 +84,7 @@ public final class PromisesTest {
     }
 
     private static void owning() {
-        promise = "4";
+        about("4");
         WeekBank x = bank();
         is("own(2, 1, 0)", x.own(2, 1, 0), false);
         is("own(-1, 1, 0)", x.own(-1, 1, 0), false);
@@ -197,7 +121,7 @@ public final class PromisesTest {
     }
 
     private static void feeding() {
-        promise = "5";
+        about("5");
         WeekBank x = new WeekBank();
         is("feed", x.feed(0x68656972, 0x7320626f, 0x756e643b, 0x0a202020, 0x20202020), 20);
         is("rules()", x.rules(), 1);
@@ -216,7 +140,7 @@ public final class PromisesTest {
     }
 
     private static void ending() {
-        promise = "6";
+        about("6");
         WeekBank x = new WeekBank();
         is("end(0)", x.end(0), 0);
         is("end(1)", x.end(1), -1);
@@ -231,7 +155,7 @@ public final class PromisesTest {
     }
 
     private static void rulesRead() {
-        promise = "7";
+        about("7");
         good("", 0);
         good(" \n \n", 0);
         good("season0 52 9999;size4 0;early52 0001;heirs free;", 4);
@@ -243,7 +167,7 @@ public final class PromisesTest {
     }
 
     private static void rulesKept() {
-        promise = "7";
+        about("7");
         WeekBank x = bank();
         is("worth", x.worth(1, 5), 15);
         is("rules", rules(x, "heirs bound; season 5 5 1; size 9 1;"), -3);
@@ -264,7 +188,7 @@ public final class PromisesTest {
     }
 
     private static void faultsOfKindOne() {
-        promise = "7, 8";
+        about("7, 8");
         fault("x", 1, 0);
         fault("siz", 1, 0);
         fault("sizes 1 1;", 1, 0);
@@ -308,7 +232,7 @@ public final class PromisesTest {
     }
 
     private static void faultsOfKindTwo() {
-        promise = "7, 8";
+        about("7, 8");
         fault("season 53 53 1;", 2, 7);
         fault("season 5 53 1;", 2, 9);
         fault("season 5 4 1;", 2, 9);
@@ -322,7 +246,7 @@ public final class PromisesTest {
     }
 
     private static void faultOfKindThree() {
-        promise = "7, 8";
+        about("7, 8");
         String thirty = "size1 1;".repeat(30);
         fault(thirty + "size", 3, 240);
         fault(thirty + "  heirs", 3, 242);
@@ -333,7 +257,7 @@ public final class PromisesTest {
     }
 
     private static void worths() {
-        promise = "9";
+        about("9");
         WeekBank x = new WeekBank();
         x.flat(0, 2);
         x.flat(0, 4);
@@ -367,7 +291,7 @@ public final class PromisesTest {
     }
 
     private static void gives() {
-        promise = "10";
+        about("10");
         WeekBank x = bank();
         is("give(-1, 0, 1)", x.give(-1, 0, 1), -1);
         is("give(4, 0, 1)", x.give(4, 0, 1), -1);
@@ -403,7 +327,7 @@ public final class PromisesTest {
     }
 
     private static void giveRoom() {
-        promise = "10";
+        about("10");
         WeekBank x = bank();
         for (int week = 1; week <= 9; week++) {
             is("give", x.give(0, 0, week), week - 1);
@@ -429,7 +353,7 @@ public final class PromisesTest {
     }
 
     private static void wishes() {
-        promise = "11";
+        about("11");
         WeekBank x = bank();
         x.give(0, 0, 1);
         x.give(1, 1, 11);
@@ -463,7 +387,7 @@ public final class PromisesTest {
     }
 
     private static void rushWishes() {
-        promise = "12";
+        about("12");
         WeekBank x = bank();
         is("owner 4", x.rushWish(4, 0, 0, 52, 1), false);
         is("owner -1", x.rushWish(-1, 0, 0, 52, 1), false);
@@ -485,7 +409,7 @@ public final class PromisesTest {
 
     /** Of two pairs with the same gift the dearer, of like ones the first; more gifts before dearer ones. */
     private static void ringsChosen() {
-        promise = "13";
+        about("13");
         WeekBank x = bank();
         is("rings(1)", x.rings(1), -1);
         is("rings(10)", x.rings(10), -1);
@@ -527,7 +451,7 @@ public final class PromisesTest {
     }
 
     private static void ringsTold() {
-        promise = "13";
+        about("13");
         WeekBank x = bank();
         for (int week = 1; week <= 9; week++) {
             x.give(0, 0, week);
@@ -547,7 +471,7 @@ public final class PromisesTest {
     }
 
     private static void banks() {
-        promise = "14";
+        about("14");
         WeekBank x = bank();
         x.give(0, 1, 1);
         x.give(0, 0, 2);
@@ -562,7 +486,7 @@ public final class PromisesTest {
     }
 
     private static void takes() {
-        promise = "15";
+        about("15");
         WeekBank x = bank();
         x.give(0, 0, 1);
         x.give(1, 1, 11);
@@ -588,7 +512,7 @@ public final class PromisesTest {
     }
 
     private static void rushes() {
-        promise = "16";
+        about("16");
         WeekBank x = bank();
         x.give(0, 0, 1);
         x.give(1, 0, 11);
@@ -623,7 +547,7 @@ public final class PromisesTest {
 
     /** The least luck first, of like ones the lesser; a place in the order isn't lost by luck of others. */
     private static void rushOrder() {
-        promise = "16";
+        about("16");
         WeekBank x = bank();
         for (int o = 0; o < 4; o++) {
             x.give(o, 0, 10 * o + 1);
@@ -644,7 +568,7 @@ public final class PromisesTest {
     }
 
     private static void shuts() {
-        promise = "17";
+        about("17");
         WeekBank x = bank();
         is("shut(2, ..)", x.shut(2, 1, 1), -1);
         is("shut(-1, ..)", x.shut(-1, 1, 1), -1);
@@ -695,7 +619,7 @@ public final class PromisesTest {
     }
 
     private static void shutsAfterDeath() {
-        promise = "17";
+        about("17");
         WeekBank x = bank();
         x.give(0, 0, 1);
         x.give(0, 0, 2);
@@ -723,7 +647,7 @@ public final class PromisesTest {
     }
 
     private static void weeksGo() {
-        promise = "18";
+        about("18");
         WeekBank x = bank();
         is("weeks(0)", x.weeks(0), -1);
         is("weeks(-1)", x.weeks(-1), -1);
@@ -752,7 +676,7 @@ public final class PromisesTest {
     }
 
     private static void yearsGo() {
-        promise = "19";
+        about("19");
         WeekBank x = bank();
         x.give(0, 0, 4);
         x.give(0, 0, 5);
@@ -781,7 +705,7 @@ public final class PromisesTest {
     }
 
     private static void deaths() {
-        promise = "20";
+        about("20");
         WeekBank x = bank();
         x.give(0, 0, 1);
         x.give(0, 0, 2);
@@ -810,7 +734,7 @@ public final class PromisesTest {
     }
 
     private static void boundHeirs() {
-        promise = "20";
+        about("20");
         WeekBank x = bank();
         rules(x, "season 0 52 7; heirs bound;");
         x.give(0, 0, 1);
@@ -823,7 +747,7 @@ public final class PromisesTest {
     }
 
     private static void feesReckoned() {
-        promise = "21";
+        about("21");
         WeekBank x = new WeekBank();
         is("no weeks", x.fees(1, 0), 0);
         x.flat(0, 1);
@@ -869,7 +793,7 @@ public final class PromisesTest {
     }
 
     private static void feesOfTheWeekless() {
-        promise = "21";
+        about("21");
         WeekBank x = new WeekBank();
         x.flat(0, 1);
         x.owner(100);
@@ -885,7 +809,7 @@ public final class PromisesTest {
     }
 
     private static void parties() {
-        promise = "22";
+        about("22");
         WeekBank x = bank();
         is("party(2, 1)", x.party(2, 1), -1);
         is("party(-1, 1)", x.party(-1, 1), -1);
@@ -920,7 +844,7 @@ public final class PromisesTest {
     }
 
     private static void giftsTold() {
-        promise = "23";
+        about("23");
         WeekBank x = bank();
         x.year();
         x.give(1, 1, 11);
@@ -953,7 +877,7 @@ public final class PromisesTest {
     }
 
     private static void ownersTold() {
-        promise = "24";
+        about("24");
         WeekBank x = bank();
         is("ownerOf(4, 0)", x.ownerOf(4, 0), -1);
         is("ownerOf(-1, 0)", x.ownerOf(-1, 0), -1);
@@ -975,7 +899,7 @@ public final class PromisesTest {
     }
 
     private static void counts() {
-        promise = "25";
+        about("25");
         WeekBank x = bank();
         rules(x, "heirs bound; season 0 52 3;");
         x.year();
