@@ -35,6 +35,7 @@ public final class BankBoundariesTest extends Checks {
         diesWithNothing();
         diesFreeOrBound();
         diesWithGifts();
+        diesWithLuckAndAWish();
         aDeadOneDoesNothingMore();
         finish("all boundaries of flats, owners, weeks and heirs hold");
     }
@@ -697,6 +698,24 @@ public final class BankBoundariesTest extends Checks {
         is("a BANKED one can be taken", x.take(1, 1), 0);
         x.year();
         is("the heir's in the next YEAR", x.party(0, 3), 1);
+    }
+
+    private static void diesWithLuckAndAWish() {
+        about("3: all WEEKS go to an heir, POINTS too");
+        WeekBank x = bank();
+        x.give(0, 0, 1);
+        x.bank(0);
+        x.rushWish(0, 0, 1, 1, 1);
+        x.rush();
+        x.rushWish(0, -1, 0, 52, 1);
+        x.rushWish(2, -1, 0, 52, 1);
+        x.dies(0, 1, true);
+        is("LUCK doesn't go to the heir", x.ownerOf(1, 1), 0);
+        is("nor the WISH", x.ownerOf(1, 5), 0);
+        is("a WISH of another stays", x.ownerOf(2, 5), 1);
+        is("nor the LIMIT", x.ownerOf(1, 2), 200);
+        x.dies(1, 2, true);
+        is("an heir keeps the WISH that it has", x.ownerOf(2, 5), 1);
     }
 
     private static void aDeadOneDoesNothingMore() {

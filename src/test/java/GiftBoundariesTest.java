@@ -456,7 +456,16 @@ public final class GiftBoundariesTest extends Checks {
                 }
             }
         }
-        WeekBank x = bank();
+        WeekBank x = circle(9);
+        for (int i = 0; i < 9; i++) {
+            int before = (i + 8) % 9 + 1;
+            x.wish(i, 0, before, before, 1);
+        }
+        is("nine the other way round", x.rings(9), 9);
+        for (int i = 0; i < 9; i++) {
+            is("gift " + i, x.of(i, 6), (i + 8) % 9);
+        }
+        x = bank();
         for (int i = 0; i < 9; i++) {
             x.give(0, 0, i + 1);
             x.wish(i, -1, 0, 52, 1);
@@ -730,6 +739,8 @@ public final class GiftBoundariesTest extends Checks {
         is("keeps the WISH", x.ownerOf(1, 5), 1);
         x.bank(2);
         is("6 for 6", x.rush(), 1);
+        is("TAKEN", x.of(0, 5), 3);
+        is("party", x.party(0, 1), 1);
         is("POINTS", x.ownerOf(1, 0), 0);
         is("LUCK", x.ownerOf(1, 1), 6);
         x.rushWish(1, 0, 11, 12, 1);
