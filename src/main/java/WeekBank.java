@@ -950,10 +950,12 @@ public final class WeekBank {
 
         /** Does what findBest found: how many are SWAPPED. */
         int swapBest() {
-            for (int i = 0; i < size; i++) {
+            int way = wayOf[best];
+            for (int i = MOST_WAITING - 1; i >= 0; i--) {
                 if (has(best, i)) {
-                    swap(members[i], wayOf[best] / DIGIT_WORTH[i] % 10);
+                    swap(members[i], way % 10);
                 }
+                way /= 10;
             }
             return Integer.bitCount(best);
         }
